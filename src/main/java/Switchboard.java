@@ -638,9 +638,6 @@ public final class Switchboard {
             ones[trunk] = one;
             others[trunk] = other;
             lengths[trunk] = length;
-            // The row may hold a trunk that was undone.
-            carried[trunk] = 0;
-            cutTrunks &= ~bit(trunk);
             trunkCount++;
             return trunk;
         }
@@ -720,7 +717,7 @@ public final class Switchboard {
         }
     }
 
-    /** All that is undone, saved and restored. */
+    /** All that is undone, saved and restored. Rows are copied whole, so that unused places stay 0. */
     private static final class State {
         final Network network = new Network();
         int subscriberCount;
@@ -771,8 +768,6 @@ public final class Switchboard {
             }
             homes[subscriber] = home;
             tariffs[subscriber] = tariff;
-            // The row may hold a subscriber who was undone.
-            bills[subscriber] = 0;
             subscriberCount++;
             return subscriber;
         }

@@ -10,6 +10,7 @@ public final class UndoTest {
         whatStays();
         saveAndRestore();
         rowsStartAnew();
+        rowsComeBack();
         CHECK.end();
     }
 
@@ -194,5 +195,29 @@ public final class UndoTest {
         CHECK.equal("bill of a new subscriber", board.bill(0), 0);
         board.call(1, 0);
         CHECK.equal("minutes of a new call", board.minutes(0), 0);
+    }
+
+    /** What was undone comes back by restore, also when something else took its place meanwhile. */
+    private static void rowsComeBack() {
+        Switchboard board = Boards.withSwitches(3);
+        board.addTrunk(0, 1, 5);
+        board.addTrunk(0, 1, 6);
+        board.addSubscriber(1, 2);
+        board.addSubscriber(0, 1);
+        board.call(1, 0);
+        String before = picture(board);
+        board.save();
+        for (int change = 0; change < 5; change++) {
+            board.undo();
+        }
+        CHECK.equal("all is undone", picture(board), "3 0 ");
+        board.addTrunk(2, 1, 9);
+        board.addTrunk(1, 2, 8);
+        board.addSubscriber(2, 1);
+        board.addSubscriber(2, 0);
+        board.addSubscriber(0, 2);
+        board.call(1, 0);
+        board.restore();
+        CHECK.equal("all is back", picture(board), before);
     }
 }
