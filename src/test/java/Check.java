@@ -1,11 +1,21 @@
 /** Counts the answers that are not as due, and tells them. */
 final class Check {
     private final String name;
+    private String heading = "";
     private int asked;
     private int wrong;
 
     Check(String name) {
         this.name = name;
+    }
+
+    /** What the next answers are about: it is told in front of each fault. */
+    void under(String newHeading) {
+        heading = newHeading + ": ";
+    }
+
+    int asked() {
+        return asked;
     }
 
     void equal(String what, long got, long want) {
@@ -60,7 +70,7 @@ final class Check {
     void tell(String fault) {
         wrong++;
         if (wrong <= 40) {
-            System.out.println(name + ": " + fault);
+            System.out.println(name + ": " + heading + fault);
         }
     }
 

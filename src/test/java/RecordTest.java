@@ -17,36 +17,27 @@ public final class RecordTest {
         CHECK.end();
     }
 
-    private static String blocked(Switchboard board) {
-        StringBuilder text = new StringBuilder();
-        for (int number = 0; number < board.blockedCalls(); number++) {
-            text.append(number == 0 ? "" : " ").append(board.blockedCaller(number));
-            text.append(board.blockedReason(number)).append(board.blockedCallee(number));
-        }
-        return text.toString();
-    }
-
     // Promises 32 to 35
     private static void blockedCalls() {
         Switchboard board = Boards.ofTwo();
         refuseBlocked(board, 0);
         board.call(0, 1);
         CHECK.refused("busy", IllegalStateException.class, () -> board.call(2, 1));
-        CHECK.equal("one is kept", blocked(board), "2b1");
+        CHECK.equal("one is kept", Trace.blocked(board), "2b1");
         board.cut(1);
         board.cut(2);
         CHECK.refused("no route", UnsupportedOperationException.class, () -> board.call(4, 3));
-        CHECK.equal("two are kept", blocked(board), "2b1 4r3");
+        CHECK.equal("two are kept", Trace.blocked(board), "2b1 4r3");
         for (int number = 0; number < 6; number++) {
             int callee = 1 + number / 2;
             CHECK.refused("busy", IllegalStateException.class, () -> board.call(0, callee));
         }
-        CHECK.equal("eight are kept", blocked(board), "2b1 4r3 0b1 0b1 0b2 0b2 0b3 0b3");
+        CHECK.equal("eight are kept", Trace.blocked(board), "2b1 4r3 0b1 0b1 0b2 0b2 0b3 0b3");
         CHECK.refused("no route", UnsupportedOperationException.class, () -> board.call(5, 2));
-        CHECK.equal("the oldest goes", blocked(board), "4r3 0b1 0b1 0b2 0b2 0b3 0b3 5r2");
+        CHECK.equal("the oldest goes", Trace.blocked(board), "4r3 0b1 0b1 0b2 0b2 0b3 0b3 5r2");
         refuseBlocked(board, 8);
         CHECK.refused("busy", IllegalStateException.class, () -> board.call(1, 5));
-        CHECK.equal("and the next", blocked(board), "0b1 0b1 0b2 0b2 0b3 0b3 5r2 1b5");
+        CHECK.equal("and the next", Trace.blocked(board), "0b1 0b1 0b2 0b2 0b3 0b3 5r2 1b5");
         CHECK.equal("they are at most 8", board.blockedCalls(), 8);
         for (int wild : Boards.WILD) {
             refuseBlocked(board, wild);

@@ -1,3 +1,5 @@
+import java.util.function.Consumer;
+
 /** Promises 49 to 51: undo and snapshots. */
 public final class UndoTest {
     private static final Check CHECK = new Check("UndoTest");
@@ -16,28 +18,27 @@ public final class UndoTest {
 
     // Promise 49
     private static void everyChange() {
+        undone("addSwitch", Switchboard::addSwitch);
+        undone("addTrunk", board -> board.addTrunk(0, 1, 9));
+        undone("addSubscriber", board -> board.addSubscriber(1, 2));
+        undone("call", board -> board.call(3, 2));
+        undone("hangUp", board -> board.hangUp(1));
+        undone("cut", board -> board.cut(0));
+        undone("mend", board -> board.mend(2));
+        undone("pass", board -> board.pass(60));
+        undone("run", board -> Boards.run(board, "mend 2;cut 1"));
+    }
+
+    private static void undone(String name, Consumer<Switchboard> change) {
         Switchboard board = Boards.ofTwo();
         board.call(0, 1);
         board.pass(5);
-        undone(board, "addSwitch", () -> board.addSwitch());
-        undone(board, "addTrunk", () -> board.addTrunk(0, 1, 9));
-        undone(board, "addSubscriber", () -> board.addSubscriber(1, 2));
-        undone(board, "call", () -> board.call(3, 2));
-        undone(board, "hangUp", () -> board.hangUp(1));
-        undone(board, "cut", () -> board.cut(0));
         board.cut(2);
-        undone(board, "mend", () -> board.mend(2));
-        undone(board, "pass", () -> board.pass(60));
-        undone(board, "run", () -> Boards.run(board, "mend 0;cut 1"));
-    }
-
-    private static void undone(Switchboard board, String name, Runnable change) {
         String before = picture(board);
-        change.run();
+        change.accept(board);
         CHECK.no(name + " changes something", picture(board).equals(before));
         CHECK.equal("undo of " + name, board.undo(), 7);
         CHECK.equal("all after undo of " + name, picture(board), before);
-        change.run();
     }
 
     private static String picture(Switchboard board) {
